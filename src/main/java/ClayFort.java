@@ -246,7 +246,7 @@ public final class ClayFort {
         if (k < -2 || k >= MOST_CELLS) {
             return OUTSIDE;
         }
-        findSap(c);
+        ways.find(land, land.openCells(land.silent), 0L, c);
         return ways.told(k);
     }
 
@@ -326,12 +326,8 @@ public final class ClayFort {
         return best == NONE || most == NEVER ? NONE : most;
     }
 
-    private void findSap(int c) {
-        ways.find(land, land.openCells(land.silent), 0L, c);
-    }
-
     private int sapNights(int c) {
-        findSap(c);
+        ways.find(land, land.openCells(land.silent), 0L, c);
         return ways.length == 0 ? NEVER : ways.told(-2);
     }
 
@@ -769,7 +765,7 @@ public final class ClayFort {
             dug = 0;
             silent = 0;
             guns = 0;
-            for (int at = clayFrom + cells; at < from + n; at += Text.PER_GUN) {
+            for (int at = clayFrom + cells; guns < MOST_GUNS && at < from + n; at += Text.PER_GUN) {
                 kind[guns] = Text.kindOf(sheet.numbers[at + 1]);
                 stand[guns] = sheet.numbers[at + 2] - '0' + (sheet.numbers[at + 3] - '0') * wide;
                 reach[guns] = sheet.numbers[at + 4] - '0';
@@ -834,23 +830,22 @@ public final class ClayFort {
         long seenFrom(int c, int range, long standing) {
             long seen = 0;
             for (int way = 0; way < ACROSS.length; way++) {
-                int x = column[c] + ACROSS[way];
-                int y = row[c] + DOWN[way];
-                for (int off = 1; off <= range && isOnLand(x, y); off++) {
+                int x = column[c];
+                int y = row[c];
+                for (int off = 1; off <= range; off++) {
+                    x += ACROSS[way];
+                    y += DOWN[way];
+                    if (x < 0 || x >= wide || y < 0 || y >= high) {
+                        break;
+                    }
                     long looked = 1L << (y * wide + x);
                     seen |= looked;
                     if ((standing & looked) != 0) {
                         break;
                     }
-                    x += ACROSS[way];
-                    y += DOWN[way];
                 }
             }
             return seen;
-        }
-
-        boolean isOnLand(int x, int y) {
-            return x >= 0 && x < wide && y >= 0 && y < high;
         }
 
         /** The guns that shoot at any of these cells. */

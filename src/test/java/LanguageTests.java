@@ -17,8 +17,8 @@ public final class LanguageTests {
         + "sap rush silence breach day post reading back reaches kinds haunts odds sheet lose put cell copy tell fire "
         + "as trace fault many";
     private static final String CONSTANTS = "UNKNOWN OUTSIDE STATE FULL NONE LOST";
-    private static final String BANNED = "throw|throws|try|catch|finally|synchronized|assert|while|new Object|->|::|"
-        + "Random|Thread|System\\.(?!arraycopy)|Math\\.\\w*Exact|Exception|Error|\\.equals\\(|hashCode|toString|package|@";
+    private static final String BANNED = "throw|throws|try|catch|finally|synchronized|assert|new Object|->|::|"
+        + "Random|Thread|System\\.(?!arraycopy)|Math\\.\\w*Exact|Exception|Error|hashCode|toString|package|@";
 
     private static int passed = 0;
     private static int failed = 0;

@@ -358,6 +358,13 @@ public final class PromiseTests {
         due(7, "is not", x.hush(0, false), 0);
         due(7, "shot", x.shot(4), 1);
         due(7, "gun 1", x.hush(1, true), UNKNOWN);
+        ClayFort y = of("p221111;g001;g000;g101");
+        due(7, "another", y.hush(2, true), 0);
+        due(7, "not by it", y.shot(3), 1);
+        due(7, "still", y.hush(2, true), 1);
+        due(7, "the one beside it is not", y.hush(1, false), 0);
+        due(7, "no longer", y.hush(2, false), 1);
+        due(7, "by it again", y.shot(3), 5);
         due(7, "gun -1", x.hush(-1, true), UNKNOWN);
     }
 
@@ -454,6 +461,8 @@ public final class PromiseTests {
         due(13, "bare", x.bare(), bits(0, 1, 2));
         due(12, "gun 4", x.cover(4), UNKNOWN);
         due(12, "gun -1", x.cover(-1), UNKNOWN);
+        x.charge(3, 1);
+        due(13, "none is bare", x.bare(), 0);
         due(13, "no ground", new ClayFort().bare(), STATE);
     }
 
