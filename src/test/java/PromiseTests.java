@@ -731,7 +731,7 @@ public final class PromiseTests {
     }
 
     private static void post() {
-        // From 2 such a gun shuts the only way to 6; from 0 to 4 as well, but of those 0 is the least not seeing it.
+        // From 0, 1 (and others) it would shut the only way to 4, and is too far off to see 4 itself.
         ClayFort x = of("p52" + "11111" + "00001" + ";g010");
         due(22, "shuts the way", x.post(4, 0), 0);
         due(22, "no nights", x.post(4, 1), NONE);
