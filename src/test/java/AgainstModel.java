@@ -2,12 +2,15 @@ import java.util.Random;
 
 /** Long runs of calls, right and wrong ones mixed: the program's answers against the model's. */
 public final class AgainstModel {
-    private static final int RUNS = 400, CALLS = 500, KINDS_OF_CALLS = 38;
+    private static final int RUNS = 2000, KINDS_OF_CALLS = 38;
+    /** An object is used for 512 calls at most, and a new ground takes 62. */
+    private static final int CALLS = 450;
 
     private final Random random;
     private final ClayFort fort = new ClayFort();
     private final Model model = new Model();
     private int cells = 0;
+    private int calls = 0;
 
     private AgainstModel(long seed) {
         random = new Random(seed);
@@ -28,15 +31,14 @@ public final class AgainstModel {
     }
 
     private boolean isAlike(int run) {
-        newGround();
-        for (int n = 0; n < CALLS; n++) {
-            String wrong = random.nextInt(40) == 0 ? newGround() : oneCall(random.nextInt(KINDS_OF_CALLS));
-            if (wrong != null) {
-                System.out.println("run " + run + ", call " + n + ": " + wrong);
-                return false;
-            }
+        String wrong = newGround();
+        while (calls < CALLS && wrong == null) {
+            wrong = random.nextInt(40) == 0 ? newGround() : oneCall(random.nextInt(KINDS_OF_CALLS));
         }
-        return true;
+        if (wrong != null) {
+            System.out.println("run " + run + ", call " + calls + ": " + wrong);
+        }
+        return wrong == null;
     }
 
     // ---- what the calls are given
@@ -130,7 +132,8 @@ public final class AgainstModel {
         return wrong;
     }
 
-    private static String same(String call, long got, long want) {
+    private String same(String call, long got, long want) {
+        calls++;
         return got == want ? null : call + " answered " + got + ", the model " + want;
     }
 

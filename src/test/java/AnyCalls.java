@@ -2,7 +2,9 @@ import java.util.Random;
 
 /** Any calls in any state: none throws, and each ends. */
 public final class AnyCalls {
-    private static final int RUNS = 300, CALLS = 512;
+    private static final int RUNS = 1000;
+    /** An object is used for 512 calls at most, and a ground takes 61 with one more. */
+    private static final int CALLS = 450;
     private static final int[] EDGES = {
         0, 1, 2, 3, 4, 5, 8, 9, 10, 31, 32, 35, 36, 37, 40, 41, 59, 60, 61, 63, 64, 65, -1, -2, -9, -10, -32, -64,
         Integer.MAX_VALUE, Integer.MAX_VALUE - 1, Integer.MIN_VALUE, Integer.MIN_VALUE + 1,
@@ -14,6 +16,7 @@ public final class AnyCalls {
 
     private final Random random;
     private final ClayFort x = new ClayFort();
+    private int calls = 0;
 
     private AnyCalls(long seed) {
         random = new Random(seed);
@@ -34,11 +37,12 @@ public final class AnyCalls {
     }
 
     private void calls() {
-        for (int n = 0; n < CALLS; n++) {
+        while (calls < CALLS) {
             if (random.nextInt(30) == 0) {
                 ground(TEXTS[random.nextInt(TEXTS.length)]);
             }
             call(random.nextInt(40));
+            calls++;
         }
     }
 
@@ -48,6 +52,7 @@ public final class AnyCalls {
             x.put(0, k, text.charAt(k));
         }
         x.ground(0, 2, 0, text.length());
+        calls += text.length() + 2;
     }
 
     private int any() {

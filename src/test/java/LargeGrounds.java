@@ -24,22 +24,16 @@ public final class LargeGrounds {
 
     private static String firstWrong(Random random) {
         String text = text(random);
-        ClayFort fort = new ClayFort();
-        fort.sheet(0, 0, text.length());
-        for (int k = 0; k < text.length(); k++) {
-            fort.put(0, k, text.charAt(k));
-        }
-        fort.ground(0, 0, 0, text.length());
         Model model = new Model();
         model.take(text);
-        for (int n = 0; n < 12; n++) {
-            int c = random.nextInt(model.clay.length);
-            fort.dig(c);
+        int[] dug = random.ints(12, 0, model.clay.length).toArray();
+        for (int c : dug) {
             model.dig(c);
         }
         for (int rush = 0; rush < 2; rush++) {
             Model.Way[] best = bestWays(model, rush == 1);
             for (int c = 0; c < best.length; c++) {
+                ClayFort fort = fort(text, dug);
                 for (int k = rush == 1 ? -3 : -2; k < 36; k++) {
                     int got = rush == 1 ? fort.rush(c, k) : fort.sap(c, k);
                     if (got != model.told(best[c], k)) {
@@ -49,6 +43,19 @@ public final class LargeGrounds {
             }
         }
         return null;
+    }
+
+    private static ClayFort fort(String text, int[] dug) {
+        ClayFort fort = new ClayFort();
+        fort.sheet(0, 0, text.length());
+        for (int k = 0; k < text.length(); k++) {
+            fort.put(0, k, text.charAt(k));
+        }
+        fort.ground(0, 0, 0, text.length());
+        for (int c : dug) {
+            fort.dig(c);
+        }
+        return fort;
     }
 
     private static String text(Random random) {

@@ -597,6 +597,8 @@ public final class PromiseTests {
         sapIs(x, 4, 7, 0, 1, 4);
         sapIs(x, 7, 13, 6, 7);
         sapIs(x, 5, 11, 0, 1, 2, 5);
+        x = of(SMALL);
+        x.hush(0, true);
         x.dig(0);
         x.dig(1);
         sapIs(x, 5, 8, 0, 1, 2, 5);
