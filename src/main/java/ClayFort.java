@@ -1020,8 +1020,8 @@ public final class ClayFort {
         int bestFirst(Land land) {
             int best = NONE;
             int least = FAR;
-            for (int c = 0; c < land.cells; c += land.wide) {
-                if (rest[c] < least) {
+            for (int c = 0; c < land.cells; c++) {
+                if (land.column[c] == 0 && rest[c] < least) {
                     least = rest[c];
                     best = c;
                 }
